@@ -1,9 +1,9 @@
 import java.math.BigInteger;
 import java.util.Random;
 
-/** Long runs of mixed calls, each answer and each change held against a desk made of BigIntegers. */
+/** Runs of mixed calls, each answer and each change held against a desk made of BigIntegers. */
 public final class ExactDeskAgainstBigInteger {
-    private static final int RUNS = 6000;
+    private static final int RUNS = 12000;
     /** With the 156 calls that look at the whole state, no object is used for more than 512. */
     private static final int CALLS = 512 - 156;
     private static final int METHODS = 14;
@@ -215,7 +215,9 @@ public final class ExactDeskAgainstBigInteger {
     private static boolean runIsRight(int run) {
         ExactDesk x = new ExactDesk();
         Model m = new Model();
-        for (int n = 0; n < CALLS; n++) {
+        // Of every length, so that each kind of call comes to be the last one before the state is looked at.
+        int calls = 1 + random.nextInt(CALLS);
+        for (int n = 0; n < calls; n++) {
             long[] both = step(x, m);
             if (both[0] != both[1]) {
                 System.out.println("run " + run + ", call " + n + ": " + call + " answered " + both[0]
