@@ -40,6 +40,7 @@ public final class ExactDeskFace {
             if (!Modifier.isPrivate(method.getModifiers())) {
                 int want = Modifier.PUBLIC;
                 hold(method.getModifiers() == want, method + " is not plainly public");
+                hold(method.getExceptionTypes().length == 0, method + " says that it throws");
                 seen.add(sign(method));
                 names.add(method.getName());
             }
